@@ -5,7 +5,7 @@ public final class TreeImages {
     public static final int NONE = 0, UNKNOWN = -1, OUTSIDE = -2, STATE = -3, ROOM = -4;
 
     private static final int FOLDER = 1, FILE = 2, HIDER = 3;
-    private static final int MOST_NODES = 33, MOST_FILE_BYTES = 100, MOST_FILE_NAMES = 9;
+    private static final int MOST_NODES = 32, MOST_FILE_BYTES = 100, MOST_FILE_NAMES = 9;
     private static final int MOST_IMAGES = 3, MOST_VIEWS = 60, MOST_TAPE_BYTES = 4000;
     private static final int HIGHEST_NAME = 999, HIGHEST_WORD = 65535, HIGHEST_BYTE = 255;
     private static final int MOST_NAMES = (MOST_NODES - 1) * MOST_FILE_NAMES;

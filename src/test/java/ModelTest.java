@@ -132,7 +132,7 @@ public final class ModelTest {
                 }
             }
             for (int i = 0; i < calls; i++) {
-                int node = random.nextInt(10) == 0 ? some(-1, 34) : random.nextInt(model.nodes.size());
+                int node = random.nextInt(10) == 0 ? some(-1, 33) : random.nextInt(model.nodes.size());
                 int folder = random.nextInt(6) == 0 ? node : aFolder();
                 switch (random.nextInt(8)) {
                     case 0 -> call("folder", folder, aName());
@@ -257,7 +257,7 @@ public final class ModelTest {
                 case 0 -> call("folder", node, aName());
                 case 1 -> call("file", node, aName());
                 case 2 -> call("hide", node, aName());
-                case 3 -> call("link", node, aName(), random.nextInt(3) == 0 ? some(-1, 34) : aFile());
+                case 3 -> call("link", node, aName(), random.nextInt(3) == 0 ? some(-1, 33) : aFile());
                 case 4 -> call("data", node, aByte(0), aTimes());
                 case 5 -> call("owner", node, aWord(), aWord());
                 case 6 -> { if (random.nextInt(6) == 0) call("clear"); }
@@ -670,7 +670,7 @@ public final class ModelTest {
             if (name < 1 || name > 999) return -2;
             Node in = nodes.get(folder);
             if (in.kind != 1 || in.below.containsKey(name)) return -3;
-            if (nodes.size() == 33) return -4;
+            if (nodes.size() == 32) return -4;
             Node node = new Node();
             node.kind = kind;
             node.home = in;

@@ -93,12 +93,19 @@ public final class PromisesTest {
         due("2 below a hider", x.folder(6, 1), STATE);
         due("2 outside ahead of state", x.folder(5, 0), OUTSIDE);
         due("2 nothing changed", x.count(0), 7);
-        for (int n = 7; n <= 32; n++) {
+        for (int n = 7; n <= 31; n++) {
             due("2 node " + n, x.folder(1, n), n);
         }
-        due("2 room", x.folder(1, 33), ROOM);
-        due("2 state ahead of room", x.folder(1, 32), STATE);
-        due("2 full", x.count(0), 33);
+        // the folder 0 counts among the 32
+        due("2 room", x.folder(1, 32), ROOM);
+        due("2 room for no file", x.file(1, 32), ROOM);
+        due("2 room for no hider", x.hide(1, 32), ROOM);
+        due("2 unknown ahead of room", x.folder(32, 1), UNKNOWN);
+        due("2 outside ahead of room", x.folder(1, 1000), OUTSIDE);
+        due("2 state ahead of room", x.folder(1, 31), STATE);
+        due("2 full", x.count(0), 32);
+        due("2 cleared", x.clear(), 32);
+        due("2 room again", x.folder(0, 1), 1);
     }
 
     private static void file() {
@@ -111,10 +118,11 @@ public final class PromisesTest {
         due("3 below a file", x.file(1, 1), STATE);
         due("3 name is there", x.file(0, 1), STATE);
         due("3 is a file", x.data(1, 0, 1), 1);
-        for (int n = 4; n <= 32; n++) {
-            x.file(0, n);
+        for (int n = 4; n <= 31; n++) {
+            due("3 node " + n, x.file(0, n), n);
         }
         due("3 room", x.file(0, 500), ROOM);
+        due("3 full", x.count(0), 32);
     }
 
     private static void hide() {
@@ -129,10 +137,11 @@ public final class PromisesTest {
         due("4 no data", x.data(1, 0, 1), STATE);
         x.build(8);
         due("4 is a hider", x.node(0, 3, 0), 3);
-        for (int n = 4; n <= 32; n++) {
-            x.hide(0, n);
+        for (int n = 4; n <= 31; n++) {
+            due("4 node " + n, x.hide(0, n), n);
         }
         due("4 room", x.hide(0, 500), ROOM);
+        due("4 full", x.count(0), 32);
     }
 
     private static void link() {
@@ -161,10 +170,10 @@ public final class PromisesTest {
         due("5 no node more", x.count(0), 4);
         x.build(8);
         due("5 names told", x.node(0, 2, 3), 9);
-        for (int n = 4; n <= 32; n++) {
+        for (int n = 4; n <= 31; n++) {
             x.file(0, 100 + n);
         }
-        due("5 a full tree takes names", x.link(0, 999, 32), 2);
+        due("5 a full tree takes names", x.link(0, 999, 31), 2);
     }
 
     private static void data() {
@@ -421,23 +430,23 @@ public final class PromisesTest {
     /** More calls than an object is promised for: the rows must hold the largest image nonetheless. */
     private static void buildLargest() {
         TreeImages x = new TreeImages();
-        for (int f = 1; f <= 32; f++) {
+        for (int f = 1; f <= 31; f++) {
             x.file(0, f);
             for (int i = 0; i < 100; i++) {
                 x.data(f, (f * 7 + i * 11) % 256, 1);
             }
             for (int n = 1; n < 9; n++) {
-                x.link(0, f + 32 * n, f);
+                x.link(0, f + 31 * n, f);
             }
         }
         due("9 largest", x.build(8), 0);
-        due("9 largest: NUMBERS", x.image(0, 2), 33);
+        due("9 largest: NUMBERS", x.image(0, 2), 32);
         due("9 largest: TAIL BLOCKS", x.image(0, 3), 16);
-        due("9 largest: DATA", x.image(0, 4), 3200);
-        due("9 largest: LENGTH", x.image(0, 0), 18 + 3200 + 12 + 32 * 36 + 288 * 4 + 16 * 5 + 66);
+        due("9 largest: DATA", x.image(0, 4), 3100);
+        due("9 largest: LENGTH", x.image(0, 0), 18 + 3100 + 12 + 31 * 36 + 279 * 4 + 16 * 5 + 64);
         x.over(0);
-        for (int f = 1; f <= 32; f++) {
-            x.look(0, f + 256);
+        for (int f = 1; f <= 31; f++) {
+            x.look(0, f + 248);
             for (int i = 0; i < 100; i++) {
                 due("9 largest: read " + f + " " + i, x.read(f, i), (f * 7 + i * 11) % 256);
             }
@@ -958,8 +967,8 @@ public final class PromisesTest {
     private static void lookRoom() {
         TreeImages x = new TreeImages();
         for (int image = 0; image < 2; image++) {
-            for (int n = 1; n <= 32; n++) {
-                x.file(0, n + 32 * image);
+            for (int n = 1; n <= 31; n++) {
+                x.file(0, n + 31 * image);
             }
             x.build(8);
             x.over(image);
