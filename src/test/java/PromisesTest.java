@@ -1,12 +1,7 @@
 import java.util.Arrays;
 
 /** Each promise by itself: ordinary inputs, the edges that the document names, and wrong inputs. */
-public final class PromisesTest {
-    private static final int UNKNOWN = -1, OUTSIDE = -2, STATE = -3, ROOM = -4;
-    private static final int LOW = Integer.MIN_VALUE, HIGH = Integer.MAX_VALUE;
-
-    private static int wrong = 0;
-
+public final class PromisesTest extends Checks {
     public static void main(String[] args) {
         aNewObject();
         folder();
@@ -47,17 +42,7 @@ public final class PromisesTest {
         view();
         read();
         count();
-        System.out.println(wrong == 0 ? "all promises hold" : wrong + " answers are not as due");
-        if (wrong != 0) {
-            System.exit(1);
-        }
-    }
-
-    private static void due(String what, int got, int want) {
-        if (got != want) {
-            wrong++;
-            System.out.println(what + " answered " + got + ", due is " + want);
-        }
+        finish();
     }
 
     private static void aNewObject() {
@@ -294,7 +279,7 @@ public final class PromisesTest {
             0, 18, 0, 2, 3,
             0, 0, 0, 12, 0, 24
         };
-        setSum(want);
+        summed(want);
         dueBytes("9 bytes", bytesOf(x, 0), want);
         TreeImages y = new TreeImages();
         y.build(8);
@@ -506,36 +491,6 @@ public final class PromisesTest {
         due("12 what was built comes", come(new TreeImages(), bytesOf(x, 2)), 0);
     }
 
-    /** The tree of the document's test: folder 2 (3), file 3 (5 and 9 in 2), file 4 (1 in 2), hider 5 (4 in 2). */
-    private static int[] sample() {
-        TreeImages x = new TreeImages();
-        x.file(0, 5);
-        x.data(1, 7, 10);
-        x.data(1, 0, 16);
-        x.data(1, 1, 3);
-        x.folder(0, 3);
-        x.link(2, 9, 1);
-        x.hide(2, 4);
-        x.file(2, 1);
-        x.data(4, 9, 5);
-        x.owner(1, 258, 3);
-        x.build(8);
-        return bytesOf(x, 0);
-    }
-
-    private static final int ROOT_ROW = 32, FOLDER_ROW = 44, FILE_ROW = 56, SMALL_ROW = 74, HIDER_ROW = 86;
-    private static final int NAMES = 92, TAILS = 112, EXPORTS = 122;
-
-    /** Judges the sample with some bytes changed (place, byte, ..) and its SUM set anew. */
-    private static int judged(int... changes) {
-        int[] bytes = sample();
-        for (int i = 0; i + 1 < changes.length; i += 2) {
-            bytes[changes[i]] = changes[i + 1];
-        }
-        setSum(bytes);
-        return come(new TreeImages(), bytes);
-    }
-
     private static void loadHead() {
         due("12 the sample", judged(), 0);
         due("12.1 seventeen", come(new TreeImages(), Arrays.copyOf(sample(), 17)), -11);
@@ -714,16 +669,6 @@ public final class PromisesTest {
         due("12 another image: beyond", x.read(3, 3200), OUTSIDE);
     }
 
-    private static int[] joined(int[]... parts) {
-        int[] all = {};
-        for (int[] part : parts) {
-            int from = all.length;
-            all = Arrays.copyOf(all, from + part.length);
-            System.arraycopy(part, 0, all, from, part.length);
-        }
-        return all;
-    }
-
     private static void drop() {
         TreeImages x = new TreeImages();
         due("13 none", x.drop(), STATE);
@@ -763,16 +708,6 @@ public final class PromisesTest {
         x.build(8);
         due("14 longer", x.out(1, 19), 200);
         dueThrow("14 the first is no longer", x, 0, 40);
-    }
-
-    private static void dueThrow(String what, TreeImages x, int image, int i) {
-        int thrown = 0;
-        try {
-            x.out(image, i);
-        } catch (ArrayIndexOutOfBoundsException e) {
-            thrown = 1;
-        }
-        due(what + " throws", thrown, 1);
     }
 
     private static void image() {
@@ -1054,7 +989,7 @@ public final class PromisesTest {
         // packed otherwise than by a build: 0 2 | 128 | 254 9 | 0 5 | 128 opens to 2 9 9 9 5
         int[] m = changed(sample(), 18, 0, 19, 2, 20, 128, 21, 254, 22, 9, 23, 0, 24, 5, 25, 128,
                 TAILS + 6, 18, TAILS + 8, 8, FILE_ROW + 13, 0, FILE_ROW + 15, 0);
-        setSum(m);
+        summed(m);
         TreeImages y = new TreeImages();
         due("23 packed otherwise", come(y, m), 0);
         y.over(0);
@@ -1088,68 +1023,5 @@ public final class PromisesTest {
         due("24 below", x.count(-1), OUTSIDE);
         x.bare();
         due("24 no views", x.count(3), 0);
-    }
-
-    private static int[] bytesOf(TreeImages x, int image) {
-        int[] bytes = new int[x.image(image, 0)];
-        for (int i = 0; i < bytes.length; i++) {
-            bytes[i] = x.out(image, i);
-        }
-        return bytes;
-    }
-
-    /** The bytes come by the tape and are loaded. */
-    private static int come(TreeImages x, int[] bytes) {
-        int[] full = Arrays.copyOf(bytes, (bytes.length + 19) / 20 * 20);
-        int[] five = new int[5];
-        for (int at = 0; at < full.length; at += 20) {
-            for (int i = 0; i < 5; i++) {
-                int from = at + 4 * i;
-                five[i] = full[from] << 24 | full[from + 1] << 16 | full[from + 2] << 8 | full[from + 3];
-            }
-            x.feed(five[0], five[1], five[2], five[3], five[4]);
-        }
-        x.end(bytes.length);
-        return x.load();
-    }
-
-    private static int[] changed(int[] bytes, int... changes) {
-        for (int i = 0; i + 1 < changes.length; i += 2) {
-            bytes[changes[i]] = changes[i + 1];
-        }
-        return bytes;
-    }
-
-    private static int[] summed(int... bytes) {
-        setSum(bytes);
-        return bytes;
-    }
-
-    private static void setSum(int[] bytes) {
-        long sum = 0;
-        for (int i = 0; i < bytes.length; i++) {
-            sum += i == 16 || i == 17 ? 0 : (long) bytes[i] * (i + 1);
-        }
-        setWord(bytes, 16, (int) (sum % 65521));
-    }
-
-    private static void setWord(int[] bytes, int place, int word) {
-        bytes[place] = word >> 8;
-        bytes[place + 1] = word & 255;
-    }
-
-    private static int word(int[] bytes, int place) {
-        return bytes[place] * 256 + bytes[place + 1];
-    }
-
-    private static int row(int[] bytes, int number) {
-        return word(bytes, 6) + word(bytes, word(bytes, 12) + 2 * number - 2);
-    }
-
-    private static void dueBytes(String what, int[] got, int[] want) {
-        if (!Arrays.equals(got, want)) {
-            wrong++;
-            System.out.println(what + " are " + Arrays.toString(got) + ", due are " + Arrays.toString(want));
-        }
     }
 }
