@@ -24,6 +24,7 @@ public final class BuildEdgesTest extends Checks {
         sameTreeSameBytes();
         fullTree();
         buildLeavesTheTree();
+        nothingIsLeftOfTheTreeBefore();
         finish();
     }
 
@@ -193,6 +194,11 @@ public final class BuildEdgesTest extends Checks {
         stored("9 a pair ahead of a run", row(1, 2, 2, 9, 9, 9, 9, 9), 6, 2, 1, 2, 2, 252, 9);
         stored("9 seven and one", row(9, 9, 9, 9, 9, 9, 9, 5), 4, 250, 9, 0, 5);
         stored("9 one and seven", row(5, 9, 9, 9, 9, 9, 9, 9), 4, 0, 5, 250, 9);
+        stored("9 like ones with a lesser between", row(5, 2, 1, 2, 9, 9, 9, 9), 7, 3, 5, 2, 1, 2, 253, 9);
+        stored("9 like ones with a greater between", row(5, 1, 2, 1, 9, 9, 9, 9), 7, 3, 5, 1, 2, 1, 253, 9);
+        stored("9 two alike and a lesser", row(5, 3, 3, 1, 9, 9, 9, 9), 7, 3, 5, 3, 3, 1, 253, 9);
+        stored("9 two alike and a greater", row(5, 3, 3, 4, 9, 9, 9, 9), 7, 3, 5, 3, 3, 4, 253, 9);
+        stored("9 a lesser and two alike", row(5, 1, 3, 3, 9, 9, 9, 9), 7, 3, 5, 1, 3, 3, 253, 9);
         stored("9 bytes that look like rows", row(128, 128, 128, 128, 255, 255, 255, 255), 4, 253, 128, 253, 255);
     }
 
@@ -399,6 +405,22 @@ public final class BuildEdgesTest extends Checks {
         m = bytesOf(y, 0);
         due("9 holes doubled: the first's place", word(m, row(m, 3) + 8), 20);
         due("9 holes doubled: the second's place", word(m, row(m, 5) + 8), 20);
+        // beside a full file
+        TreeImages full = files(8, 100);
+        for (int n = 2; n <= 3; n++) {
+            full.file(0, n);
+            full.data(n, 5, 8);
+        }
+        full.build(8);
+        due("9 doubled beside a full one", full.image(1, 4) - full.image(0, 4), 2);
+        // one byte each
+        TreeImages one = files(8, 1);
+        one.file(0, 2);
+        one.data(2, 1, 1);
+        one.build(8);
+        due("9 one byte, doubled", one.image(1, 4), 1);
+        m = bytesOf(one, 1);
+        dueBytes("9 one byte, told twice", part(m, row(m, 3) + 6, 6), 0, 1, 0, 0, 1, 0);
         // empty ones have nothing to share
         TreeImages z = new TreeImages();
         z.file(0, 1);
@@ -449,6 +471,19 @@ public final class BuildEdgesTest extends Checks {
         int[] starts = {0, 1, 0, 2, 3};
         for (int i = 0; i < starts.length; i++) {
             due("9 almost: tail of " + i, m[row(m, i + 2) + 11], starts[i]);
+        }
+        // zeros behind are bytes too, on either side
+        for (int longer = 0; longer < 2; longer++) {
+            TreeImages y = new TreeImages();
+            y.file(0, 1);
+            y.data(1, 5, 8);
+            y.file(0, 2);
+            y.data(2, 5, 8);
+            y.data(1 + longer, 0, 8);
+            y.build(8);
+            due("9 almost: with zeros behind", y.image(0, 4), 4);
+            m = bytesOf(y, 0);
+            due("9 almost: the second's place", word(m, row(m, 3) + 8), 20);
         }
     }
 
@@ -596,11 +631,7 @@ public final class BuildEdgesTest extends Checks {
     /** A tree with all NODES, and a name of 999, by each B; within the 512 calls. */
     private static void fullTree() {
         for (int b = 8; b <= 32; b *= 2) {
-            TreeImages x = new TreeImages();
-            for (int n = 1; n <= 31; n++) {
-                x.file(0, 968 + n);
-                x.data(n, n, 100);
-            }
+            TreeImages x = made(BuildEdgesTest::growFull);
             due("9 full by " + b, x.build(b), 0);
             due("9 full: NUMBERS", x.image(0, 2), 32);
             due("9 full: names", x.node(0, 1, 4), 31);
@@ -610,8 +641,73 @@ public final class BuildEdgesTest extends Checks {
                 due("9 full: first byte", x.read(n, 0), n);
                 due("9 full: last byte", x.read(n, 99), n);
             }
-            due("9 full: comes again", comes(bytesOf(x, 0)), 0);
+            due("9 full: comes again", comes(bytesOfFull(b)), 0);
         }
+    }
+
+    private static void growFull(TreeImages x) {
+        for (int n = 1; n <= 31; n++) {
+            x.file(0, 968 + n);
+            x.data(n, n, 100);
+        }
+    }
+
+    /** Its bytes, by several objects: one has not calls enough for all. */
+    private static int[] bytesOfFull(int b) {
+        int[] bytes = {};
+        for (int from = 0; from == 0 || from < word(bytes, 14); from += 400) {
+            TreeImages x = made(BuildEdgesTest::growFull);
+            x.build(b);
+            int[] some = new int[Math.min(400, x.image(0, 0) - from)];
+            for (int i = 0; i < some.length; i++) {
+                some[i] = x.out(0, from + i);
+            }
+            bytes = joined(bytes, some);
+        }
+        return bytes;
+    }
+
+    /** 'the same one for the same tree': whatever tree, and whatever image, was there before */
+    private static void nothingIsLeftOfTheTreeBefore() {
+        TreeImages x = new TreeImages();
+        for (int n = 1; n <= 3; n++) {
+            x.file(0, n);
+            x.data(n, 10 + n, 99 - n);
+            x.owner(n, n, n);
+            x.link(0, 10 + n, n);
+        }
+        x.build(8);
+        x.build(32);
+        x.clear();
+        grow(x);
+        x.drop();
+        x.build(8);
+        TreeImages y = new TreeImages();
+        grow(y);
+        y.build(8);
+        dueBytes("9 as on a new object", bytesOf(x, 1), bytesOf(y, 0));
+        int[] m = bytesOf(x, 1);
+        dueBytes("9 doubled, whatever was behind their bytes", part(m, row(m, 3) + 6, 8), words(8, 18, 0, 2));
+        // tails that are tails no more
+        TreeImages z = files(8, 5, 2, 13);
+        z.data(1, 1, 3);
+        z.data(2, 2, 6);
+        z.data(3, 3, 3);
+        z.build(8);
+        m = bytesOf(z, 1);
+        due("9 no TAIL BLOCK", z.image(1, 3), 0);
+        for (int number = 2; number <= 4; number++) {
+            due("9 no tail of " + number, word(m, row(m, number) + 10), 0);
+        }
+    }
+
+    private static void grow(TreeImages x) {
+        for (int n = 1; n <= 2; n++) {
+            x.file(0, n);
+            x.data(n, 5, 8);
+        }
+        x.hide(0, 3);
+        x.folder(0, 4);
     }
 
     /** 'The tree becomes an image': and is there still. */

@@ -6,6 +6,7 @@ public final class TreeEdgesTest extends Checks {
         namesAre1To999();
         namesInOneFolderDiffer();
         filesHaveAtMost9Names();
+        all31FilesHave9Names();
         linkNeedsAFolderAndAFile();
         filesHave0To100Bytes();
         bytesAre0To255();
@@ -167,6 +168,29 @@ public final class TreeEdgesTest extends Checks {
             names = x.link(0, 100 + n, file);
         }
         return names;
+    }
+
+    /** As many names as a tree can have: 31 FILES of 9 each. */
+    private static void all31FilesHave9Names() {
+        TreeImages x = new TreeImages();
+        for (int file = 1; file <= 31; file++) {
+            x.file(0, file);
+            for (int n = 1; n < 9; n++) {
+                due("5 name of " + file, x.link(0, 31 * n + file, file), n + 1);
+            }
+        }
+        due("5 no name more", x.link(0, 999, 31), ROOM);
+        x.build(8);
+        due("5 all names", x.node(0, 1, 4), 279);
+        for (int number = 2; number <= 32; number++) {
+            due("5 names of " + number, x.node(0, number, 3), 9);
+        }
+        x.over(0);
+        for (int i = 0; i <= 279; i += 31) {
+            due("5 list " + i, x.list(0, i), i < 279 ? i + 1 : NONE);
+        }
+        due("5 the last name", x.list(0, 278), 279);
+        due("5 it leads to the last FILE", x.view(x.look(0, 279), 2), 32);
     }
 
     /** 'STATE: no folder, the name is there, no FILE' */

@@ -8,11 +8,13 @@ public final class ViewEdgesTest extends Checks {
         imageTellsFive();
         sameByteByByte();
         nodeTellsFive();
+        nodeOfAHider();
         overFromTheFirstOn();
         overLetsViewsGo();
         bareLetsAllGo();
         view0IsOfAll();
         lookFromTheUppermostDown();
+        lookAtNamesOfOtherFolders();
         lookAtHiders();
         lookThroughFolders();
         whatIsNoFolderEndsThem();
@@ -21,6 +23,7 @@ public final class ViewEdgesTest extends Checks {
         viewsAreAtMost60();
         lookNeedsAFolderAndAName();
         listOfLayers();
+        listOfAll999Names();
         listEnds();
         viewTellsSeven();
         viewOfTheUppermost();
@@ -218,6 +221,21 @@ public final class ViewEdgesTest extends Checks {
         }
     }
 
+    /** '0 of a HIDER': whatever stands behind its row */
+    private static void nodeOfAHider() {
+        TreeImages x = new TreeImages();
+        for (int n = 1; n <= 3; n++) {
+            x.hide(0, 2 * n - 1);
+            x.owner(add(x, 0, 2 * n, n), 65535, 65535);
+        }
+        x.hide(0, 999);
+        x.build(8);
+        for (int number = 2; number <= 8; number += 2) {
+            due("17 HIDER " + number, x.node(0, number, 0), 3);
+            due("17 bytes or names of HIDER " + number, x.node(0, number, 4), 0);
+        }
+    }
+
     /** 'An image is laid over those that are laid: how many are. UNKNOWN; STATE: it is laid.' */
     private static void overFromTheFirstOn() {
         TreeImages x = new TreeImages();
@@ -356,6 +374,42 @@ public final class ViewEdgesTest extends Checks {
         due(what + ": kind", x.view(1, 0), kinds[upper]);
         due(what + ": image", x.view(1, 1), upper);
         due(what + ": of how many", x.view(1, 6), depth);
+    }
+
+    /** 'the first one that has it there': not in the folders that stand beside it in FOLDERS */
+    private static void lookAtNamesOfOtherFolders() {
+        TreeImages x = new TreeImages();
+        // FOLDERS: 3 and 6 of the folder 0, 7 and 8 of 3, 1 and 2 of 6
+        x.folder(0, 3);
+        x.folder(0, 6);
+        x.file(1, 7);
+        x.file(1, 8);
+        x.file(2, 1);
+        x.file(2, 2);
+        x.build(8);
+        x.over(0);
+        x.look(0, 3);
+        x.look(0, 6);
+        int[][] there = {{3, 6}, {7, 8}, {1, 2}};
+        for (int view = 0; view < 3; view++) {
+            for (int name = 1; name <= 9; name++) {
+                boolean has = name == there[view][0] || name == there[view][1];
+                due("20 name " + name + " below " + view, x.look(view, name) > 0 ? 1 : 0, has ? 1 : 0);
+            }
+        }
+        // the upper image's folder 0 ends with 2, behind which its folder 2 has a HIDER 5 at first
+        TreeImages y = new TreeImages();
+        tree(y, 5, 2);
+        y.clear();
+        y.folder(0, 2);
+        y.hide(1, 5);
+        y.build(8);
+        y.over(0);
+        y.over(1);
+        due("21 the first name", y.list(0, 0), 2);
+        due("21 one that is hidden elsewhere", y.list(0, 1), 5);
+        due("22 both", y.view(0, 3), 2);
+        due("20 it leads", y.view(y.look(0, 5), 1), 0);
     }
 
     /** 'a HIDER: nothing': whatever is below it, in its folder alone */
@@ -571,6 +625,43 @@ public final class ViewEdgesTest extends Checks {
             }
             due("22 names of " + (laid + 1), x.view(0, 3), laid == 0 ? 4 : 5);
         }
+    }
+
+    /** 'NAME, 1 to 999': all of them below one folder, by two images that came */
+    private static void listOfAll999Names() {
+        TreeImages x = new TreeImages();
+        come(x, namesFrom(1, 900));
+        come(x, namesFrom(900, 999));
+        x.over(0);
+        due("22 names of the lower", x.view(0, 3), 900);
+        due("21 the last of the lower", x.list(0, 899), 900);
+        due("21 behind the last of the lower", x.list(0, 900), NONE);
+        x.over(1);
+        due("22 all names", x.view(0, 3), 999);
+        int[] indices = {0, 1, 898, 899, 900, 997, 998};
+        for (int i : indices) {
+            due("21 name " + i, x.list(0, i), i + 1);
+        }
+        due("21 behind all names", x.list(0, 999), NONE);
+        due("20 the last name", x.view(x.look(0, 999), 1), 1);
+        due("20 the first name", x.view(x.look(0, 1), 1), 0);
+    }
+
+    /** An image whose folder has these names of FILES without bytes, 200 for each at most. */
+    private static int[] namesFrom(int first, int last) {
+        int[] inodes = joined(new int[] {1, 0, 0, 0, 0, 1}, words(0, last - first + 1, 1));
+        int[] names = new int[0];
+        int files = (last - first) / 200 + 1;
+        int[] exports = new int[files + 1];
+        for (int name = first; name <= last; name++) {
+            names = joined(names, words(name, (name - first) / 200 + 2));
+        }
+        for (int file = 0; file < files; file++) {
+            int many = Math.min(200, last - first + 1 - 200 * file);
+            exports[file + 1] = inodes.length;
+            inodes = joined(inodes, new int[] {2, 0, 0, 0, 0, many, 0, 0, 0, 0, 0, 0});
+        }
+        return imageOf(8, new int[0], inodes, names, new int[0], exports);
     }
 
     /** 'NONE. UNKNOWN; OUTSIDE: i below 0; STATE: it is a FILE.' */

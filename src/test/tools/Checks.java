@@ -69,17 +69,19 @@ abstract class Checks {
     /** All that calls tell of an object. Some of them change it: behind this it is of no use. */
     static int[] everything(TreeImages x) {
         int[] all = counts(x);
-        for (int image = 0; image < x.count(1); image++) {
+        int images = all[1];
+        int views = all[3];
+        for (int image = 0; image < images; image++) {
             all = joined(all, brief(x, image));
         }
-        for (int view = 0; view < x.count(3); view++) {
+        for (int view = 0; view < views; view++) {
             all = joined(all, new int[] {x.view(view, 1), x.view(view, 2), x.view(view, 3), x.view(view, 6)});
         }
         all = joined(all, new int[] {x.bare()});
-        for (int image = x.count(1); image > 0; image--) {
+        for (int image = 0; image < images; image++) {
             x.drop();
         }
-        return joined(all, treeTold(x), tapeTold(x));
+        return joined(all, treeTold(x, all[0]), tapeTold(x));
     }
 
     private static int[] counts(TreeImages x) {
@@ -92,9 +94,9 @@ abstract class Checks {
     }
 
     /** The tree, and which NODE is which by owners that tell it. */
-    private static int[] treeTold(TreeImages x) {
+    private static int[] treeTold(TreeImages x, int nodes) {
         int[] told = brief(x, x.build(8));
-        for (int node = 0; node < x.count(0); node++) {
+        for (int node = 0; node < nodes; node++) {
             x.owner(node, 100 + node, 0);
         }
         told = joined(told, brief(x, x.build(16)));
